@@ -118,6 +118,7 @@ public final class ConfigurationTest {
         b.faulty(1, A + "regions { 64 code; 128 data;^");
         b.faulty(1, A + "regions { 256 ^event");
         b.faulty(1, A + "regions { 256 ^;");
+        b.faulty(1, A + "regions { 256 ^4");
         b.faulty(1, A + "event e; ^regions { 256 all; }");
         b.faulty(1, A + "regions { 256 all; } ^regions");
         b.faulty(4, "partition a { memory 512; regions { 64 all; 64 all; 64 all; 64 all; 64 all; 64 all; ^64");
@@ -311,5 +312,19 @@ public final class ConfigurationTest {
         b.refuses("no begin", IllegalStateException.class, () -> b.x.begin());
         b.refuses("no image", IllegalStateException.class, () -> b.x.image(0, 0, 0));
         b.refuses("no input", IllegalStateException.class, () -> b.x.input(0, 0, 0));
+        b.is("a fault", b.x.fault(0), 1);
+        b.load(A + "}" + F);
+        b.is("no fault any more", b.x.fault(0), 0);
+        b.is("nor a place", b.x.fault(1), -1);
+        // what an earlier, longer text left behind is not read
+        b.refuses("letters", IllegalArgumentException.class, () -> b.load("zzzzzzzzzzzzzzzzzzzzzzzzzzzz"));
+        b.refuses("a word at the end", IllegalArgumentException.class, () -> b.load("partition"));
+        b.is("the end is missed", b.x.fault(1), 9);
+        b.refuses("digits", IllegalArgumentException.class, () -> b.load("0000000000000000000000000000"));
+        b.refuses("a number at the end", IllegalArgumentException.class, () -> b.load("partition a { memory 512"));
+        b.is("the end is missed", b.x.fault(1), 24);
+        b.refuses("spaces", IllegalArgumentException.class, () -> b.load("                            "));
+        b.refuses("the end", IllegalArgumentException.class, () -> b.load("partition a { memory 512"));
+        b.is("is where the text ends", b.x.fault(1), 24);
     }
 }

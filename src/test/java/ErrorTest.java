@@ -15,6 +15,7 @@ public final class ErrorTest {
         lateActions(b);
         lateEndsTheTick(b);
         handles(b);
+        tellsWhich(b);
         decides(b);
         decidesLate(b);
         handlerEnds(b);
@@ -202,6 +203,18 @@ public final class ErrorTest {
         b.isRegister("process", 2, 21, 0);
         b.isRegister("PC", 2, 22, 4);
         b.isRegister("CODE", 2, 23, -4);
+    }
+
+    private static void tellsWhich(Bench b) {
+        b.alone(Q + H + "process p { entry 0; priority 5; } errors { raised : handle; }");
+        b.program(0, 0, Bench.code(Bench.ask(20, -9), Bench.STAY));
+        b.program(0, 768, Bench.code(Bench.ask(24), Bench.STAY));
+        b.x.begin();
+        b.x.run(10);
+        b.isRegister("KIND", 1, 10, 3);
+        b.isRegister("process", 1, 11, 2);
+        b.isRegister("PC", 1, 12, 16);
+        b.isRegister("CODE", 1, 13, -9);
     }
 
     private static void decides(Bench b) {

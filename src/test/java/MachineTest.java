@@ -81,6 +81,10 @@ public final class MachineTest {
                 b.is("no errors", b.x.about(1), 0);
             }
         }
+        start(b, Bench.set(31, 5), Bench.set(1, 6));
+        b.x.run(2);
+        b.isRegister("the last one", 0, 31, 5);
+        b.isRegister("the first one", 0, 1, 6);
         b.is("register 32", b.x.register(0, 0, 32), 0);
         b.is("register -1", b.x.register(0, 0, -1), 0);
         b.is("of no process", b.x.register(0, 1, 5), 0);

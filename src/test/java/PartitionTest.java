@@ -131,6 +131,22 @@ public final class PartitionTest {
             b.is("unlocked", b.x.partition(0, 9), 0);
             b.is("the other one", b.x.partition(0, 10), 1);
         }
+        // who is FAULTED unlocks, who begins again goes on with its locks
+        b.alone(P + "process h { entry 256; priority 2; handler; } errors { illegal : handle; memory : again; }");
+        b.program(0, 0, Bench.code(Bench.ask(21), 0));
+        b.x.begin();
+        b.x.run(5);
+        b.is("locked", b.x.partition(0, 9), 1);
+        b.x.run(1);
+        b.is("FAULTED", b.x.state(0, 0, 0), 3);
+        b.is("unlocked", b.x.partition(0, 9), 0);
+        b.alone(P + Q.replace("priority 9", "priority 5") + "errors { memory : again; }");
+        b.program(0, 0, Bench.code(Bench.ask(21), Bench.fetch(2, 5, 0, -4)));
+        b.x.begin();
+        b.x.run(6);
+        b.isState("BEGINS", 0, 0, 1, 0, 5, -1, -1, 6, 5);
+        b.is("still locked", b.x.partition(0, 9), 1);
+        b.is("by it", b.x.partition(0, 10), 0);
     }
 
     private static void warm(Bench b) {
@@ -278,5 +294,12 @@ public final class PartitionTest {
             b.isRegister(what, 0, 10, ask[3]);
             b.isRegister(what, 0, 11, ask[4] == -7 ? ask[1] : ask[4]);
         }
+        b.alone("process pqrs { entry 4; priority 5; } event y; event pqrs1;");
+        b.x.image(0, 0, 'p' | 'q' << 8 | 'r' << 16 | 's' << 24);
+        b.program(0, 4, Bench.ask(36, 5, 0, 4));
+        b.x.begin();
+        b.x.run(5);
+        b.isRegister("at place 0", 0, 10, 0);
+        b.isRegister("its number", 0, 11, 0);
     }
 }

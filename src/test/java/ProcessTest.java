@@ -231,6 +231,8 @@ public final class ProcessTest {
         ask(b, P, "no such", 1, 5, 1, 3);
         ask(b, P, "16", 1, 5, 0, 16);
         ask(b, P, "-1", 1, 5, 0, -1);
+        ask(b, P, "0", 0, 5, 0, 0);
+        b.is("the lowest", b.x.state(0, 0, 2), 0);
         ask(b, P, "15", 0, 5, 0, 15);
         b.is("its own", b.x.state(0, 0, 2), 15);
         ask(b, P + H, "of the handler", 0, 5, 1, 7);
@@ -337,6 +339,16 @@ public final class ProcessTest {
         b.isState("DORMANT is not HELD", 0, 1, 0, 276, 3, -1, -1, 5, 0, 0, 0);
         b.x.run(5);
         b.isState("begins anew", 0, 1, 1, 256, 3, -1, -1, 5, 46, 0, 0);
+
+        // who begins again for being late is not HELD
+        b.alone(P + "process q { entry 256; priority 3; deadline 9; } errors { late : again; }");
+        b.program(0, 0, Bench.code(Bench.ask(27, 1), Bench.STAY));
+        b.program(0, 256, Bench.STAY);
+        b.x.begin();
+        b.x.run(10);
+        b.is("HELD", b.x.state(0, 1, 8), 1);
+        b.x.run(1);
+        b.isState("BEGINS", 0, 1, 1, 256, 3, 19, -1, 0, 10, 0, 0);
 
         // HELD while it waits to be let go on: one call does both
         b.alone(P + Q);

@@ -1,6 +1,6 @@
 import java.util.Random;
 
-/** No call throws but what the document names, whatever comes; and some things hold at all times. */
+/** No call throws but what the document names, whatever comes; some things hold at all times; a used object is as a new one. */
 public final class RobustTest {
     private static final String[] NAMES = {"a", "b", "c", "d", "e", "late", "skip", "abcdefghijkl"};
     private static final int[] NUMBERS = {-2, -1, 0, 1, 2, 3, 4, 7, 8, 15, 16, 17, 31, 32, 60, 63, 64, 255, 256, 300, 500,
@@ -16,6 +16,9 @@ public final class RobustTest {
         }
         for (int n = 0; n < 150; n++) {
             test.someWorks();
+        }
+        for (int n = 0; n < 40; n++) {
+            test.usedIsAsNew();
         }
         test.b.finish();
     }
@@ -42,8 +45,14 @@ public final class RobustTest {
             text.append(below(4) == 0 ? "delay " + (1 + below(20)) + "; " : "");
             text.append(handler && i == 0 ? "handler; " : "").append(below(5) == 0 ? "stopped; } " : "} ");
         }
-        text.append("semaphore s 0 : 1; semaphore t 1 : 2 fifo; event e; buffer u 1; buffer v 2 fifo; board o; ");
-        text.append("port i in queuing; port j out queuing; port k in sampling; port l out sampling; port m in queuing; ");
+        for (int i = below(3); i >= 0; i--) {
+            text.append("semaphore s" + i + " " + below(2) + " : " + (1 + below(3)) + (below(2) == 0 ? " fifo; " : "; "));
+            text.append("event e" + i + "; buffer u" + i + " " + (1 + below(4)) + (below(2) == 0 ? " fifo; " : "; "));
+            text.append("board o" + i + "; ");
+        }
+        text.append(below(2) == 0 ? "port i in queuing; port j out queuing; " : "port j out queuing; port i in queuing; ");
+        text.append(below(2) == 0 ? "port k in sampling; port m in queuing; " : "port m in queuing; port k in sampling; ");
+        text.append("port l out sampling; ");
         String[] kinds = {"illegal", "memory", "late", "raised", "align"};
         String[] actions = {"skip", "stop", "again", "warm", "cold", "idle", "handle"};
         text.append("errors { ");
@@ -59,9 +68,10 @@ public final class RobustTest {
         for (int i = 0; i < n; i++) {
             text.append(partition(i));
         }
-        text.append("channel queuing " + (1 + below(3)) + " { a.j > " + NAMES[n - 1] + ".i } ");
-        text.append("channel sampling " + below(9) + " { a.l > " + NAMES[n - 1] + ".k, output } ");
-        text.append("channel queuing 2 fifo { input > a.m } channel sampling 3 { input > output } frame { ");
+        text.append("channel queuing " + (1 + below(3)) + " { a.j > " + (below(3) == 0 ? "output } " : NAMES[n - 1] + ".i } "));
+        text.append("channel sampling " + below(9) + " { a.l > " + NAMES[n - 1] + (below(2) == 0 ? ".k, output } " : ".k } "));
+        text.append(below(2) == 0 ? "channel queuing 1 { input > a.m } " : "channel queuing 2 fifo { input > output } ");
+        text.append("channel sampling 3 { input > output } frame { ");
         for (int i = 0; i < 3; i++) {
             text.append(NAMES[below(n)] + " " + (1 + below(20)) + "; ");
         }
@@ -103,7 +113,7 @@ public final class RobustTest {
         }
     }
 
-    private void programs() {
+    private void programs(Bench b) {
         for (int p = 0; p < b.x.about(5); p++) {
             for (int at = 0; at < 384; at += 4) {
                 if (below(4) == 0 && at + 20 < 384) {
@@ -120,7 +130,7 @@ public final class RobustTest {
     private void someWorks() {
         b.fresh();
         b.load(configuration());
-        programs();
+        programs(b);
         for (int t = 0; t < 50; t++) {
             b.x.input(below(2), 10 * t, t);
         }
@@ -132,6 +142,66 @@ public final class RobustTest {
             }
             looks();
         }
+    }
+
+    /** One object has worked already, the other is new: the same calls give the same answers. */
+    private void usedIsAsNew() {
+        b.fresh();
+        for (int round = 0; round < 3; round++) {
+            Bench other = new Bench();
+            String text = configuration();
+            b.load(text);
+            other.load(text);
+            b.is("all as new", all(b.x), all(other.x));
+            long seed = some.nextLong();
+            some.setSeed(seed);
+            programs(b);
+            some.setSeed(seed);
+            programs(other);
+            for (int t = 0; t < 30; t++) {
+                b.x.input(t % 2, 7 * t, t);
+                other.x.input(t % 2, 7 * t, t);
+            }
+            b.x.begin();
+            other.x.begin();
+            for (int n = 0; n < 25; n++) {
+                int ticks = 1 + below(20);
+                b.is("done", b.x.run(ticks), other.x.run(ticks));
+                b.is("all at " + b.x.about(0) + " of " + text, all(b.x), all(other.x));
+            }
+        }
+    }
+
+    /** A number made of all that can be asked. */
+    private static long all(PartitionWorks x) {
+        long sum = 0;
+        for (int i = 0; i < 10; i++) {
+            sum = sum * 31 + x.about(i);
+        }
+        for (int p = 0; p < 3; p++) {
+            for (int i = 0; i < 14; i++) {
+                sum = sum * 31 + x.partition(p, i);
+            }
+            for (int q = 0; q < 5; q++) {
+                for (int i = 0; i < 32; i++) {
+                    sum = (sum * 31 + x.register(p, q, i)) * 31 + x.state(p, q, i);
+                }
+            }
+            for (int i = 0; i < 90; i++) {
+                int sort = i / 18;
+                int k = i / 3 % 6;
+                sum = (sum * 31 + x.thing(p, sort, k)) * 31 + x.waiting(p, sort, k);
+                sum = (sum * 31 + x.wordOf(p, sort, k, i % 3)) * 31 + x.region(p, k, i % 3);
+            }
+            for (int i = 0; i < 1024; i += 4) {
+                sum = sum * 31 + x.peek(p, i);
+            }
+        }
+        for (int i = 0; i < 30; i++) {
+            sum = (sum * 31 + x.channel(i / 6, i % 6)) * 31 + x.wordAt(i / 6, i % 6);
+            sum = (sum * 31 + x.trace(i / 3, i % 3)) * 31 + x.error(i / 6, i % 6);
+        }
+        return sum;
     }
 
     /** What is so at all times, by the document's words. */

@@ -9,6 +9,7 @@ public final class ThingTest {
         times(b);
         semaphores(b);
         turns(b);
+        firstToWait(b);
         timeIsOver(b);
         events(b);
         buffers(b);
@@ -129,6 +130,24 @@ public final class ThingTest {
                 b.x.run(8);
             }
             b.is("counts again", b.x.thing(0, 0, 0), 1);
+        }
+    }
+
+    /** Who waits first is not who was READY first: that one counts, with fifo or at one priority. */
+    private static void firstToWait(Bench b) {
+        for (int fifo = 0; fifo < 2; fifo++) {
+            b.alone("process l { entry 256; priority 2; } process m { entry 0; priority 7; delay 2; }"
+                    + " process g { entry 512; priority 1; delay 30; } semaphore s 0 : 9 " + (fifo == 1 ? "fifo;" : ";"));
+            b.program(0, 0, Bench.code(Bench.ask(8, 0, -1), Bench.STAY));
+            b.program(0, 256, Bench.code(Bench.ask(5, 0, fifo == 1 ? 9 : 7), Bench.ask(8, 0, -1), Bench.STAY));
+            b.program(0, 512, Bench.code(Bench.set(17, 9), Bench.CALL, Bench.STAY));
+            b.x.begin();
+            b.x.run(30);
+            b.is("both wait", b.x.waiting(0, 0, 0), 2);
+            b.is("with this priority", b.x.state(0, 0, 2), fifo == 1 ? 9 : 7);
+            b.x.run(2);
+            b.is("who waited first", b.x.state(0, 1, 0), 1);
+            b.is("the other waits", b.x.state(0, 0, 0), 2);
         }
     }
 
