@@ -214,6 +214,35 @@ final class Bench {
         return ask(number, 0, 0, 0);
     }
 
+    /** A call with any numbers in x10, x11, x12, x17: nine instructions, the call itself the ninth. */
+    static int[] askLong(int number, int a, int b, int c) {
+        return code(setLong(10, a), setLong(11, b), setLong(12, c), setLong(17, number), CALL);
+    }
+
+    /** What a call answers process 0 of a configuration that stands, done at time 8; it runs from place 0. */
+    int called(int number, int a, int b, int c) {
+        program(0, 0, code(askLong(number, a, b, c), STAY));
+        x.begin();
+        x.run(9);
+        return x.register(0, 0, 10);
+    }
+
+    /** The same in a partition with the things told, the first of them process 0. */
+    int asked(String things, int number, int a, int b, int c) {
+        alone(things);
+        return called(number, a, b, c);
+    }
+
+    /** What a call answers the handler, process 1, done at time 9, while process 0 is FAULTED. */
+    int handlerAsked(String things, int number, int a, int b, int c) {
+        alone("process p { entry 0; priority 5; } process h { entry 768; priority 0; handler; } " + things
+                + " errors { illegal : handle; }");
+        program(0, 768, code(askLong(number, a, b, c), STAY));
+        x.begin();
+        x.run(10);
+        return x.register(0, 1, 10);
+    }
+
     /** Asks in a partition with the things told, alone, with nothing else that runs; checks x10. */
     void answers(String what, int want, int number, int a, int b, int c) {
         program(0, 0, code(ask(number, a, b, c), STAY));
