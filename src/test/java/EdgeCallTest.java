@@ -22,6 +22,7 @@ public final class EdgeCallTest {
         call20(b);
         call21(b);
         call22(b);
+        oneLockIsLeft(b);
         locksOfTheHandler(b);
         call23(b);
         call24(b);
@@ -252,6 +253,22 @@ public final class EdgeCallTest {
         }
     }
 
+    // CALLS: "who is not who locked it can't come to that." While one lock is left nobody else goes on.
+    private static void oneLockIsLeft(Bench b) {
+        b.alone("process p { entry 0; priority 1; } process q { entry 512; priority 9; delay 2; } ");
+        b.program(0, 0, Bench.code(Bench.set(17, 21), Bench.CALL, Bench.CALL, Bench.set(17, 22), Bench.CALL, Bench.set(5, 1), Bench.CALL));
+        b.program(0, 512, Bench.STAY);
+        b.x.begin();
+        b.x.run(5);
+        b.is("one is left", b.x.partition(0, 9), 1);
+        b.is("who locked it", b.x.partition(0, 10), 0);
+        b.x.run(1);
+        b.isRegister("it goes on", 0, 5, 1);
+        b.x.run(1);
+        b.is("none is left", b.x.partition(0, 9), 0);
+        b.is("the other is next", b.x.partition(0, 10), 1);
+    }
+
     // CALLS: "the handler: 3; who is not who locked it can't come to that."
     private static void locksOfTheHandler(Bench b) {
         b.is("21", b.handlerAsked("", 21, 0, 0, 0), 3);
@@ -370,6 +387,7 @@ public final class EdgeCallTest {
             b.is("no TIME", b.asked(periodic, 26, t, 0, 0), 1);
             b.is("no TIME", b.asked(P, 26, t, 0, 0), 1);
         }
+        b.is("with the least period", b.asked("process p { entry 0; priority 5; period 1; } ", 26, 0, 0, 0), 3);
         b.is("not to wait", b.asked(P, 26, 0, 0, 0), 2);
         b.is("x10 stays", b.asked(P, 26, 1, 0, 0), 1);
         b.is("WAITING", b.x.state(0, 0, 0), 2);
@@ -390,6 +408,7 @@ public final class EdgeCallTest {
         b.is("the handler, with a period", b.asked(P + H.replace("handler", "period 5; handler"), 27, 1, 0, 0), 1);
         b.is("the handler itself", b.handlerAsked("", 27, 1, 0, 0), 1);
         b.is("with a period", b.asked(P + "process q { entry 4; priority 3; period 9; } ", 27, 1, 0, 0), 3);
+        b.is("with the least period", b.asked(P + "process q { entry 4; priority 3; period 1; } ", 27, 1, 0, 0), 3);
         b.is("DORMANT, with a period", b.asked(P + "process q { entry 4; priority 3; period 9; stopped; } ", 27, 1, 0, 0), 3);
         b.is("DORMANT", b.asked(P + Q_STOPPED, 27, 1, 0, 0), 2);
         b.is("FAULTED", b.handlerAsked("", 27, 0, 0, 0), 2);
@@ -402,6 +421,12 @@ public final class EdgeCallTest {
         b.x.begin();
         b.x.run(10);
         b.isRegister("HELD already", 0, 10, 2);
+        b.alone(P + Q);
+        b.program(0, 0, Bench.code(Bench.set(17, 21), Bench.CALL, Bench.ask(27, 1), Bench.STAY));
+        b.x.begin();
+        b.x.run(7);
+        b.isRegister("LOCKED, but not by it", 0, 10, 0);
+        b.is("HELD", b.x.state(0, 1, 8), 1);
         // the handler asks for who locked the partition
         b.alone(P + "process d { entry 4; priority 0; deadline 2; } " + H + "errors { late : handle; }");
         b.program(0, 0, Bench.set(17, 21), Bench.CALL, Bench.STAY);
@@ -475,6 +500,7 @@ public final class EdgeCallTest {
         b.is("DUE stays", b.x.state(0, 0, 3), 15);
         b.is("above it", b.asked(t, 29, 100000, 0, 0), 3);
         b.is("no number", b.asked(t, 29, 100001, 0, 0), 1);
+        b.is("the least period", b.asked("process p { entry 0; priority 5; period 1; deadline 15; } ", 29, 1, 0, 0), 3);
         for (int a = 11; a <= 13; a++) {
             b.alone(t);
             b.program(0, 0, Bench.code(Bench.ask(1), Bench.askLong(29, a, 0, 0), Bench.STAY));
@@ -734,6 +760,15 @@ public final class EdgeCallTest {
             b.x.image(0, 512, 'x');
             b.is("in " + sort, b.called(36, 1, 512, 1), 0);
             b.isRegister("its number", 0, 11, 0);
+        }
+        int[] none = {0, '`', '{', '/', ':', 'A', 127, 128, 255};
+        for (int letter : none) {
+            b.alone(P + "event a; event z; ");
+            b.x.image(0, 600, letter);
+            b.is("byte " + letter + " is no letter", b.called(36, 1, 600, 1), 2);
+            b.alone(P + "event a; event z; ");
+            b.x.image(0, 600, 'a' | letter << 8);
+            b.is("byte " + letter + " behind a letter", b.called(36, 1, 600, 2), 2);
         }
         b.alone("process pqrs { entry 4; priority 5; } ");
         b.x.image(0, 0, 'p' | 'q' << 8 | 'r' << 16 | 's' << 24);

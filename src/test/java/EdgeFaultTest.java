@@ -207,8 +207,8 @@ public final class EdgeFaultTest {
         b.fine(A + "regions { 64 all; 192 all; } }" + F);
     }
 
-    // FAULTS: "a port that lies the wrong way, is of the other sort (sampling, queuing), or is in a channel already (at
-    // its name)"
+    // FAULTS: "a port that lies the wrong way, is of the other sort (sampling, queuing), or is in a channel already (at its
+    // name)"
     private static void portsInTheirChannels(Bench b) {
         String ports = A + "port o out sampling; port i in sampling; port p out queuing; port j in queuing; } ";
         b.faulty(7, ports + "channel sampling 0 { a.^i > output }");

@@ -10,6 +10,10 @@ public final class EdgeLoadTest {
         textIsEmptyThen(b);
         howManyPartitions(b);
         allIsNew(b);
+        nothingIsLeftOfTheOld(b);
+        memoriesThatGrow(b);
+        smallerQueues(b);
+        otherSources(b);
         noConfigurationThen(b);
         imagesAtTheirPlaces(b);
         noSuchImage(b);
@@ -82,6 +86,99 @@ public final class EdgeLoadTest {
         b.isTrace("but the new one", 0, 0, 0, 5);
     }
 
+    // Promise 4: "The text in hand, which is empty then, is the configuration" What the one before told is gone with it.
+    private static void nothingIsLeftOfTheOld(Bench b) {
+        b.fresh();
+        b.load("partition a { memory 256; regions { 64 code; 192 data; } process p { entry 0; priority 9; period 9; deadline 8; delay 7; }"
+                + " process h { entry 0; priority 9; handler; stopped; } semaphore s 9 : 9; event e; buffer u 1; board o; port i out queuing;"
+                + " errors { illegal : idle; memory : idle; late : idle; raised : idle; align : idle; } } partition b { memory 256; }"
+                + " channel queuing 1 { a.i > output } frame { b 1; a 1; }");
+        b.x.begin();
+        b.x.run(100);
+        b.is("IDLE", b.x.partition(0, 0), 1);
+        b.load("partition a { memory 256; process p { entry 4; priority 1; } process q { entry 8; priority 1; } event e; port i in sampling; }"
+                + " frame { a 1; }");
+        int[] wants = {0, 256, 2, 0, 1, 0, 0, 1, 0, 0, -1, -1, 1, 0};
+        for (int what = 0; what < 14; what++) {
+            b.is("partition, " + what, b.x.partition(0, what), wants[what]);
+        }
+        b.is("no second one", b.x.partition(1, 0), -1);
+        b.is("region", b.x.region(0, 0, 2), 3);
+        b.is("down", b.x.thing(0, 1, 0), 0);
+        b.is("no channel", b.x.thing(0, 4, 0), -1);
+        b.x.begin();
+        b.isState("no period, deadline, delay", 0, 0, 1, 4, 1, -1, -1, 0, 0, 0, 0);
+        b.isState("no handler, not stopped", 0, 1, 1, 8, 1, -1, -1, 0, 0, 0, 0);
+        b.x.run(1);
+        b.isError("no table: skip", 0, 0, 0, 0, 0, 0, 0);
+        // locks of the one before
+        b.alone(P);
+        b.program(0, 0, Bench.set(17, 21), Bench.CALL);
+        b.x.begin();
+        b.x.run(2);
+        b.is("LOCKED", b.x.partition(0, 9), 1);
+        b.load(ONE);
+        b.is("no locks", b.x.partition(0, 9), 0);
+    }
+
+    // Promise 4: "The text in hand, which is empty then, is the configuration" Its memory may be of any size, whatever it was.
+    private static void memoriesThatGrow(Bench b) {
+        b.fresh();
+        int[] sizes = {256, 512, 1024, 768, 2048, 8192, 256, 4096, 8192};
+        for (int size : sizes) {
+            b.load("partition a { memory " + size + "; } frame { a 1; }");
+            b.is("bytes", b.x.partition(0, 1), size);
+            b.is("image", b.x.peek(0, size - 4), 0);
+            b.x.image(0, size - 4, size);
+            b.is("the last word", b.x.peek(0, size - 4), size);
+            b.refuses("no more", IndexOutOfBoundsException.class, () -> b.x.image(0, size, 1));
+            b.x.begin();
+            b.is("the last word", b.x.peek(0, size - 4), size);
+            b.is("no more", b.x.peek(0, size), 0);
+        }
+    }
+
+    // Promise 4: "The text in hand, which is empty then, is the configuration" Its queues may be shorter than they were.
+    private static void smallerQueues(Bench b) {
+        b.fresh();
+        int[] depths = {16, 2, 3, 1, 5};
+        for (int depth : depths) {
+            b.load("partition a { memory 256; " + P + "buffer u " + depth + "; port i in queuing; port o out queuing; } channel queuing " + depth
+                    + " { a.o > a.i } frame { a 1; }");
+            // fills both, then takes one and puts one for ever; x20 is the next word
+            b.program(0, 0, Bench.code(Bench.set(17, 13), Bench.set(10, 0), Bench.copy(11, 20), Bench.CALL, Bench.set(17, 18), Bench.set(10, 1),
+                    Bench.CALL, Bench.withNumber(0, 20, 20, 1), Bench.set(21, depth), Bench.branch(4, 20, 21, -36), Bench.set(17, 14),
+                    Bench.set(10, 0), Bench.set(11, 0), Bench.CALL, Bench.set(17, 19), Bench.set(10, 0), Bench.set(11, 0), Bench.CALL,
+                    Bench.jump(0, -72)));
+            b.x.begin();
+            b.x.run(10 * depth);
+            for (int n = 0; n < 16; n++) {
+                for (int i = 0; i < depth; i++) {
+                    b.is("buffer of " + depth, b.x.wordOf(0, 2, 0, i), n + i);
+                    b.is("channel of " + depth, b.x.wordAt(0, i), n + i);
+                }
+                b.x.run(19);
+            }
+        }
+    }
+
+    // Promise 4: "The text in hand, which is empty then, is the configuration" Its channels come from where it tells.
+    private static void otherSources(Bench b) {
+        b.fresh();
+        String a = "partition a { memory 1024; process p { entry 0; priority 1; } process w { entry 512; priority 5; } port r out queuing;"
+                + " port q in queuing; port t in queuing; } ";
+        b.load(a + "channel queuing 1 { a.r > a.q } channel queuing 1 { input > a.t } frame { a 1; }");
+        b.load(a + "channel queuing 1 { input > a.q } channel queuing 1 { a.r > a.t } frame { a 1; }");
+        b.program(0, 512, Bench.code(Bench.ask(18, 0, 1, 0), Bench.ask(18, 0, 2, -1)));
+        b.program(0, 0, Bench.code(Bench.ask(19, 1, 0), Bench.STAY));
+        b.x.input(0, 0, 77);
+        b.x.begin();
+        b.x.run(15);
+        b.isRegister("the input", 0, 11, 77);
+        b.is("nothing comes behind it", b.x.channel(0, 1), 0);
+        b.is("who waits at the other channel waits on", b.x.waiting(0, 4, 0), 1);
+    }
+
     // Promise 4: "IllegalArgumentException: a FAULT (there is no configuration then)."
     private static void noConfigurationThen(Bench b) {
         String[] texts = {"", "partition", ONE + ";", ONE.replace("a 1; }", "a 1; "), ONE.replace("a 1;", "b 1;")};
@@ -105,8 +202,8 @@ public final class EdgeLoadTest {
         }
     }
 
-    // Promise 6: "A word of a partition's image. IndexOutOfBoundsException: no such partition, or place (a multiple of 4
-    // within its memory)."
+    // Promise 6: "A word of a partition's image. IndexOutOfBoundsException: no such partition, or place (a multiple of 4 within
+    // its memory)."
     private static void imagesAtTheirPlaces(Bench b) {
         b.fresh();
         b.load(TWO);

@@ -12,6 +12,7 @@ public final class EdgeMachineTest {
         lastRegister(b);
         placesOfInstructions(b);
         regionsOfInstructions(b);
+        beyondTheLastRegion(b);
         alignIsAheadOfMemory(b);
         turningOver(b);
         upperNumbers(b);
@@ -137,6 +138,24 @@ public final class EdgeMachineTest {
         b.x.run(2);
         b.isError("the last word of data", 0, 0, 0, 0, MEMORY, 0, 60);
         b.isRegister("the first one of code", 0, 7, 5);
+    }
+
+    // THE MACHINE: "within the memory, in a region of code or all, else error memory" Beyond the last of six regions there is
+    // none.
+    private static void beyondTheLastRegion(Bench b) {
+        b.fresh();
+        b.load("partition a { memory 512; regions { " + Bench.times(5, "64 code; ") + "192 all; } process p { entry 0; priority 1; } }"
+                + " frame { a 1; }");
+        b.program(0, 0, Bench.set(5, 9), Bench.store(2, 5, 0, 508), Bench.store(2, 5, 0, 512), Bench.fetch(2, 6, 0, 508),
+                Bench.fetch(2, 6, 0, 512), Bench.jump(0, 488));
+        b.x.begin();
+        b.x.run(8);
+        b.is("the last place", b.x.peek(0, 508), 9);
+        b.isRegister("the last place", 0, 6, 9);
+        b.isError("store", 3, 2, 0, 0, MEMORY, 0, 512);
+        b.isError("fetch", 2, 4, 0, 0, MEMORY, 0, 512);
+        b.isError("the last place is run", 1, 6, 0, 0, ILLEGAL, 0, 9);
+        b.isError("PC", 0, 7, 0, 0, MEMORY, 0, 512);
     }
 
     // THE MACHINE: "(a multiple of 4, else error align; within the memory, in a region of code or all, else error memory"
@@ -322,8 +341,8 @@ public final class EdgeMachineTest {
         goesWrong(b, LOWEST, 0, Bench.store(2, 6, 5, -4), MEMORY, HIGHEST - 3);
     }
 
-    // THE MACHINE: "Places must be a multiple of the size, else error align; within the memory, for 35 in a region of data
-    // or all, else error memory."
+    // THE MACHINE: "Places must be a multiple of the size, else error align; within the memory, for 35 in a region of data or
+    // all, else error memory."
     private static void sizesOfPlaces(Bench b) {
         int[] places = {511, 513, 514, 515, 1021, 1022, 1023, 1025, 1026, 1027, -1, -2, -3};
         for (int place : places) {

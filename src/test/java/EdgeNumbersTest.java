@@ -297,8 +297,8 @@ public final class EdgeNumbersTest {
         b.is("window 0 is a's", b.x.about(3), 1);
     }
 
-    // CONFIGURATION: "All are numbered by their order, from 0 on: things of one sort in a partition, channels, those from
-    // input and to output among the channels."
+    // CONFIGURATION: "All are numbered by their order, from 0 on: things of one sort in a partition, channels, those from input
+    // and to output among the channels."
     private static void numberingOfChannels(Bench b) {
         b.fresh();
         b.load(A + "port o out sampling; port p out queuing; port i in sampling; } channel queuing 4 { a.p > output }"

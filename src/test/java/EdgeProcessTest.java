@@ -24,8 +24,8 @@ public final class EdgeProcessTest {
         b.finish();
     }
 
-    // PROCESSES: "To BEGIN one, now or at a later time t: registers 0, PC its entry, READY (for a later time it WAITS until
-    // t), RELEASE t, DUE t + its deadline (if it has one)." Now.
+    // PROCESSES: "To BEGIN one, now or at a later time t: registers 0, PC its entry, READY (for a later time it WAITS until t),
+    // RELEASE t, DUE t + its deadline (if it has one)." Now.
     private static void beginsNow(Bench b) {
         b.alone("process p { entry 0; priority 5; } process q { entry 1020; priority 5; deadline 1; }"
                 + " process r { entry 4; priority 5; deadline 100000; }");
@@ -214,8 +214,8 @@ public final class EdgeProcessTest {
     }
 
     // PROCESSES: "To begin a partition WARM: nobody waits; locks 0; semaphores have their first counts, events are down,
-    // buffers and boards empty; all processes are DORMANT, then those that are neither handler nor stopped BEGIN, in order,
-    // now + their delay (now without one; memory and channels stay)."
+    // buffers and boards empty; all processes are DORMANT, then those that are neither handler nor stopped BEGIN, in order, now
+    // + their delay (now without one; memory and channels stay)."
     private static void warm(Bench b) {
         b.fresh();
         b.load("partition a { memory 1024; process p { entry 0; priority 5; } process w { entry 512; priority 9; }"

@@ -14,6 +14,7 @@ public final class EdgeTextTest {
         notSoMany(b);
         fullText(b);
         textThatFillsAll(b);
+        textBehindALongerOne(b);
         faultAheadOfALoad(b);
         faultOfTheLatest(b);
         anotherWhat(b);
@@ -165,6 +166,23 @@ public final class EdgeTextTest {
                 () -> b.load(padded(SMALL).substring(0, 3999) + "x"));
         b.is("what can't stand there", b.x.fault(0), 1);
         b.is("at it", b.x.fault(1), 3999);
+    }
+
+    // Promise 3: "The first n of the bytes that are ready come to the text in hand: how many it has." What an earlier, longer
+    // text left behind it is not of this one.
+    private static void textBehindALongerOne(Bench b) {
+        String[] longer = {"zzzzzzzzzzzzzzzzzzzzzzzzzzzzzzzzzzz", "00000000000000000000000000000000000", "                                   ",
+            ";;;;;;;;;;;;;;;;;;;;;;;;;;;;;;;;;;;"};
+        String[] shorter = {"partition", "partition a { memory 512", "partition a", "partition a { memory 512;"};
+        for (String first : longer) {
+            for (String text : shorter) {
+                b.fresh();
+                b.refuses("a longer text", IllegalArgumentException.class, () -> b.load(first));
+                b.refuses("a shorter one", IllegalArgumentException.class, () -> b.load(text));
+                b.is("the end where more must", b.x.fault(0), 1);
+                b.is("at it", b.x.fault(1), text.length());
+            }
+        }
     }
 
     // Promise 5: "the FAULT, 0 without (what = 0), its place (1; NONE without)." Without.

@@ -295,8 +295,8 @@ public final class EdgeTickTest {
         b.isRegister("the answer", 0, 10, 4);
     }
 
-    // A TICK: "Then one does the instruction at PC: the handler, if it is READY; else, if the partition is LOCKED, who
-    // locked it, if READY" The handler, even where another has locked.
+    // A TICK: "Then one does the instruction at PC: the handler, if it is READY; else, if the partition is LOCKED, who locked
+    // it, if READY" The handler, even where another has locked.
     private static void theHandlerFirst(Bench b) {
         b.alone("process p { entry 0; priority 15; } process d { entry 0; priority 1; deadline 9; } " + H
                 + "errors { late : handle; }");

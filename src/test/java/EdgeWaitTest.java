@@ -321,5 +321,20 @@ public final class EdgeWaitTest {
         b.is("l waited first", b.x.state(0, 1, 0), 1);
         b.is("m waits", b.x.state(0, 2, 0), 2);
         b.is("k waits", b.x.state(0, 0, 0), 2);
+        for (int fifo = 0; fifo < 2; fifo++) {
+            // l is READY first, but m, of a greater priority, waits first; then l gives m its own priority, and waits, too
+            b.alone("process l { entry 0; priority 5; } process m { entry 512; priority 9; delay 2; } process g { entry 256; priority 1;"
+                    + " delay 40; } semaphore s 0 : 9 " + (fifo == 1 ? "fifo;" : ";"));
+            b.program(0, 0, Bench.code(Bench.ask(5, 1, 5), Bench.ask(8, 0, -1), Bench.STAY));
+            b.program(0, 512, Bench.code(Bench.ask(8, 0, -1), Bench.STAY));
+            b.program(0, 256, Bench.code(Bench.set(17, 9), Bench.CALL, Bench.STAY));
+            b.x.begin();
+            b.x.run(40);
+            b.is("both wait", b.x.waiting(0, 0, 0), 2);
+            b.is("one priority", b.x.state(0, 1, 2), 5);
+            b.x.run(2);
+            b.is("m waited first", b.x.state(0, 1, 0), 1);
+            b.is("l waits", b.x.state(0, 0, 0), 2);
+        }
     }
 }

@@ -10,6 +10,7 @@ public final class EdgeWordsTest {
         Bench b = new Bench();
         namesByTheirLength(b);
         namesByTheirLetters(b);
+        namesToldApart(b);
         numbersByTheirDigits(b);
         signs(b);
         wordsAreNoNames(b);
@@ -62,6 +63,35 @@ public final class EdgeWordsTest {
         b.faulty(1, "partition a^:");
     }
 
+    // CONFIGURATION: "names: a letter a .. z, then letters a .. z and digits, at most 12 in all" One letter more or another one
+    // is another name.
+    private static void namesToldApart(Bench b) {
+        String letters = "abcdefghijklmnopqrstuvwxyz0123456789";
+        StringBuilder things = new StringBuilder();
+        String[] sorts = {"process # { entry 0; priority 1; } ", "port # in sampling; ", "event #; ", "board #; ", "buffer # 1; ",
+            "semaphore # 0 : 1; "};
+        int[] most = {16, 16, 8, 8, 8, 8};
+        String[] names = new String[62];
+        for (int i = 0; i < 62; i++) {
+            names[i] = i < 26 ? letters.substring(i, i + 1) : "a" + letters.charAt(i - 26);
+        }
+        int next = 0;
+        for (int sort = 0; sort < 6; sort++) {
+            for (int k = 0; k < most[sort] && next < 62; k++) {
+                things.append(sorts[sort].replace("#", names[next]));
+                next++;
+            }
+        }
+        b.fine(A + things + "}" + F);
+        b.is("all of them", next, 62);
+        b.is("the last one", b.x.partition(0, 3), 6);
+        for (String name : names) {
+            b.faulty(3, A + "event " + name + "; event ^" + name + ";");
+        }
+        b.fine(A + "event abcdefghijkl; event abcdefghijkm; event abcdefghijk; event bbcdefghijkl; event abcdef; }" + F);
+        b.fine(A + "event zzzzzzzzzzzz; event z99999999999; event zzzzzzzzzzz9; event z9zzzzzzzzzz; event a00000000000; }" + F);
+    }
+
     // CONFIGURATION: "numbers of 1 to 6 digits"
     private static void numbersByTheirDigits(Bench b) {
         b.fine(A + "process p { entry 0; priority 000015; period 100000; deadline 000001; } }" + F);
@@ -108,8 +138,8 @@ public final class EdgeWordsTest {
         }
     }
 
-    // CONFIGURATION: "Spaces and line ends (32, 10) stand between words where they must (12abc is 12 and abc); any other
-    // byte is a word that is none."
+    // CONFIGURATION: "Spaces and line ends (32, 10) stand between words where they must (12abc is 12 and abc); any other byte
+    // is a word that is none."
     private static void everyByte(Bench b) {
         for (int c = 0; c < 256; c++) {
             if (c == 32 || c == 10) {
@@ -160,8 +190,8 @@ public final class EdgeWordsTest {
         b.is("one partition", b.x.about(5), 1);
     }
 
-    // CONFIGURATION: "entry N ; priority N ; and then, each perhaps, in this order: period N ; deadline N ; delay N ;
-    // handler ; stopped ;"
+    // CONFIGURATION: "entry N ; priority N ; and then, each perhaps, in this order: period N ; deadline N ; delay N ; handler ;
+    // stopped ;"
     private static void orderInAProcess(Bench b) {
         String[] parts = {"period 9; ", "deadline 8; ", "delay 7; ", "handler; ", "stopped; "};
         for (int some = 0; some < 32; some++) {
@@ -212,7 +242,7 @@ public final class EdgeWordsTest {
             b.is("all the memory", b.x.region(0, 0, 1), size);
             b.is("of all", b.x.region(0, 0, 2), 3);
         }
-        String[] others = {"process", "fifo", "x", "1", ";", "}"};
+        String[] others = {"process", "fifo", "x", "1", "3", "4", "5", "6", ";", "}"};
         for (String other : others) {
             b.faulty(1, A + "regions { 256 ^" + other);
         }
@@ -274,8 +304,8 @@ public final class EdgeWordsTest {
         b.faulty(1, A + "port i ^input sampling;");
     }
 
-    // CONFIGURATION: "errors { KIND : ACTION ; .. } (one KIND at least) at most once, with KIND illegal, memory, late,
-    // raised or align (each at most once, in any order), ACTION skip, stop, again, warm, cold, idle or handle"
+    // CONFIGURATION: "errors { KIND : ACTION ; .. } (one KIND at least) at most once, with KIND illegal, memory, late, raised
+    // or align (each at most once, in any order), ACTION skip, stop, again, warm, cold, idle or handle"
     private static void kindsInAnyOrder(Bench b) {
         String[] kinds = {"illegal", "memory", "late", "raised", "align"};
         String[] actions = {"skip", "stop", "again", "warm", "cold", "idle", "handle"};
