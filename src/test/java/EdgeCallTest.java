@@ -31,6 +31,7 @@ public final class EdgeCallTest {
         call26(b);
         call27(b);
         call28(b);
+        call28KeepsTheTurn(b);
         call29(b);
         call29WithAPeriod(b);
         call30(b);
@@ -468,6 +469,20 @@ public final class EdgeCallTest {
         b.x.run(15);
         b.isRegister("may go on", 1, 10, 0);
         b.isState("waits on", 0, 0, 2, 532, 9, -1, 94, 5, 0, 0, 0);
+    }
+
+    // CALLS: "(and, if READY, stands behind all others)" Who is not READY keeps its turn.
+    private static void call28KeepsTheTurn(Bench b) {
+        b.alone("process v { entry 512; priority 9; } process w { entry 512; priority 9; } process p { entry 0; priority 5; } semaphore s 0 : 1;");
+        b.program(0, 512, Bench.code(Bench.ask(8, 0, -1), Bench.STAY));
+        b.program(0, 0, Bench.code(Bench.ask(27, 0), Bench.ask(28, 0), Bench.ask(9, 0), Bench.STAY));
+        b.x.begin();
+        b.x.run(20);
+        b.is("not HELD", b.x.state(0, 0, 8), 0);
+        b.is("both wait", b.x.waiting(0, 0, 0), 2);
+        b.x.run(5);
+        b.is("the first one to wait", b.x.state(0, 0, 0), 1);
+        b.is("the other waits", b.x.state(0, 1, 0), 2);
     }
 
     // CALLS: "29: a 1 .. 100000, else 1: DUE is now + a: 0; 3 without a deadline, or with a period if that is above RELEASE +

@@ -152,7 +152,7 @@ public final class EdgeLoadTest {
                     Bench.jump(0, -72)));
             b.x.begin();
             b.x.run(10 * depth);
-            for (int n = 0; n < 16; n++) {
+            for (int n = 0; n < 13; n++) {
                 for (int i = 0; i < depth; i++) {
                     b.is("buffer of " + depth, b.x.wordOf(0, 2, 0, i), n + i);
                     b.is("channel of " + depth, b.x.wordAt(0, i), n + i);

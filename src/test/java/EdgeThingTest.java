@@ -282,6 +282,18 @@ public final class EdgeThingTest {
         everybody(b, Bench.ask(17, 1, -1), Bench.ask(15, 1, 0), 0);
         everybody(b, Bench.ask(17, 1, -1), Bench.ask(15, 1, -7), -7);
         b.is("the other shows nothing", b.x.thing(0, 3, 0), 0);
+        // who waits for another board, or does not wait at all, has nothing of it
+        b.alone("process w { entry 512; priority 9; } process v { entry 768; priority 9; } process g { entry 0; priority 1; } board n; board o;");
+        b.program(0, 512, Bench.ask(17, 1, 50));
+        b.program(0, 768, Bench.code(Bench.set(11, 9), Bench.ask(2, 50, 9)));
+        b.program(0, 0, Bench.code(Bench.ask(15, 0, 7), Bench.STAY));
+        b.x.begin();
+        b.x.run(16);
+        b.isRegister("shown", 2, 10, 0);
+        b.isState("it waits on", 0, 0, 2, 532, 9, -1, 54);
+        b.isRegister("its x11 stays", 0, 11, 50);
+        b.isState("it waits on", 0, 1, 2, 792, 9, -1, 60);
+        b.isRegister("its x11 stays", 1, 11, 9);
         int[] words = {0, -1, LOWEST, HIGHEST};
         for (int word : words) {
             b.is("15", b.asked(P + "board o;", 15, 0, word, 0), 0);
