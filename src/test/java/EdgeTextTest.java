@@ -5,6 +5,7 @@ public final class EdgeTextTest {
     public static void main(String[] args) {
         Bench b = new Bench();
         lastOfAllCalls(b);
+        none(b);
         newObject(b);
         eachOfTwentyBytes(b);
         bytesAtTheEndsOfTheirRange(b);
@@ -38,6 +39,13 @@ public final class EdgeTextTest {
             runs++;
         }
         b.is("the 512th call", b.x.about(0), 500 * runs);
+    }
+
+    // The public face: "public static final int NONE = -1;"
+    private static void none(Bench b) {
+        b.fresh();
+        b.is("the constant", PartitionWorks.NONE, -1);
+        b.is("what answers it", b.x.end(21), PartitionWorks.NONE);
     }
 
     // Promise 1: "No text in hand, no configuration."
